@@ -971,7 +971,7 @@ public final class GrammarTools {
     }
 
     private static boolean isHole(int code) {
-        return within(code, HOLE, HOLE + HOLES - 1);
+        return code >= HOLE && code < HOLE + HOLES;
     }
 
     /** Whether a cell fits an item that is no sort. */
@@ -1268,11 +1268,18 @@ public final class GrammarTools {
         }
 
         boolean addRange(Tree from, int first, int behind) {
-            boolean fine = true;
-            for (int p = first; p < behind && fine; p++) {
-                fine = add(from.code[p]);
+            int more = 0;
+            for (int p = first; p < behind; p++) {
+                more += from.isNodeAt(p) ? 1 : 0;
             }
-            return fine;
+            int pieces = behind - first;
+            if (nodes + more > NODES || count + pieces > PIECES) {
+                return false;
+            }
+            System.arraycopy(from.code, first, code, count, pieces);
+            count += pieces;
+            nodes += more;
+            return true;
         }
 
         /** Finds how the added pieces lie in one another; slots tells how many each form has. */
@@ -1400,6 +1407,7 @@ public final class GrammarTools {
         int countReadings() {
             for (int to = 1; to <= size; to++) {
                 for (int from = to - 1; from >= 0; from--) {
+                    // greater sorts first, for a form that is one sort alone leads to a greater one
                     for (int sort = SORTS - 1; sort >= 0; sort--) {
                         ways[spot(sort, from, to)] = waysOfSort(sort, from, to);
                     }
@@ -1503,35 +1511,27 @@ public final class GrammarTools {
             boolean changed = false;
             int of = spot(sort, from, to);
             for (int f = 0; f < told.forms; f++) {
+                for (int k = told.items[f] - 1; k >= 0 && told.sort[f] == sort; k--) {
+                    int price = priceFrom(f, k, from, to);
+                    int rest = spot(f * ITEMS + k, from, to);
+                    changed |= price < leastRest[rest];
+                    leastRest[rest] = Math.min(leastRest[rest], price);
+                }
                 if (told.sort[f] == sort) {
-                    changed |= settleForm(f, from, to);
                     least[of] = Math.min(least[of], leastRest[spot(f * ITEMS, from, to)]);
                 }
             }
             return changed;
         }
 
-        private boolean settleForm(int f, int from, int to) {
-            boolean changed = false;
-            for (int k = told.items[f] - 1; k >= 0; k--) {
-                int price = priceFrom(f, k, from, to);
-                int of = spot(f * ITEMS + k, from, to);
-                changed |= price < leastRest[of];
-                leastRest[of] = Math.min(leastRest[of], price);
-            }
-            return changed;
-        }
-
+        /** The least price of the items from the k-th one on for the cells from .. to - 1. */
         private int priceFrom(int f, int k, int from, int to) {
+            int item = told.item[f * ITEMS + k];
             int price = ENDLESS;
             for (int mid = from; mid <= to; mid++) {
-                price = Math.min(price, priceOfCut(f, k, from, mid, to));
+                price = Math.min(price, priceOfItem(item, from, mid) + priceBehind(f, k + 1, mid, to));
             }
             return price;
-        }
-
-        private int priceOfCut(int f, int k, int from, int mid, int to) {
-            return priceOfItem(told.item[f * ITEMS + k], from, mid) + priceBehind(f, k + 1, mid, to);
         }
 
         private int priceBehind(int f, int k, int from, int to) {
@@ -1542,7 +1542,7 @@ public final class GrammarTools {
         }
 
         private int priceOfItem(int item, int from, int to) {
-            if (isSort(item)) {
+            if (item >= SORT) {
                 return least[spot(item - SORT, from, to)];
             }
             boolean found = nextFit[kindOfCell(item) * EDGES + from] < to;
@@ -1587,9 +1587,10 @@ public final class GrammarTools {
         }
 
         private int firstCut(int f, int k, int from, int to) {
+            int item = told.item[f * ITEMS + k];
             int price = leastRest[spot(f * ITEMS + k, from, to)];
             for (int mid = from; mid < to; mid++) {
-                if (priceOfCut(f, k, from, mid, to) == price) {
+                if (priceOfItem(item, from, mid) + priceBehind(f, k + 1, mid, to) == price) {
                     return mid;
                 }
             }
@@ -1672,16 +1673,10 @@ public final class GrammarTools {
         private void gatherSort(Telling told, int sort, int m) {
             many[shelf(sort, m)] = 0;
             for (int f = 0; f < told.forms; f++) {
-                if (told.sort[f] == sort) {
-                    gatherForm(told, f, m);
-                }
-            }
-        }
-
-        private void gatherForm(Telling told, int f, int m) {
-            for (int cuts = 0; cuts < 1 << m - 1 && !spent; cuts++) {
-                if (Integer.bitCount(cuts) == told.items[f] - 1) {
-                    combine(told, f, m, cuts);
+                for (int cuts = 0; cuts < 1 << m - 1 && !spent; cuts++) {
+                    if (told.sort[f] == sort && Integer.bitCount(cuts) == told.items[f] - 1) {
+                        combine(told, f, m, cuts);
+                    }
                 }
             }
         }
@@ -1854,13 +1849,13 @@ public final class GrammarTools {
 
         /** Lays the written tree with the set of open nodes that costs least. */
         void choose(int width) {
-            int bestCost = Integer.MAX_VALUE;
+            int bestCost = NONE;
             int best = mustOpen;
             for (int set = 0; set < 1 << softs; set++) {
                 if ((set & mustOpen) == mustOpen && (set & mustShut) == 0) {
                     place(set, width);
                     boolean fewer = Integer.bitCount(set) < Integer.bitCount(best);
-                    if (cost < bestCost || (cost == bestCost && fewer)) {
+                    if (bestCost == NONE || cost < bestCost || (cost == bestCost && fewer)) {
                         bestCost = cost;
                         best = set;
                     }
@@ -2318,7 +2313,9 @@ public final class GrammarTools {
             fuel = mostFuel;
             used = 0;
             spent = false;
-            Arrays.fill(isLet, false);
+            for (int name = 0; name < NAMES; name++) {
+                isLet[name] = false;
+            }
             return workPiece(0, 0);
         }
 
@@ -2625,7 +2622,7 @@ public final class GrammarTools {
                 return 0;
             }
             addFound(side(turn, 0), 0);
-            for (int i = 0; i < founds; i++) {
+            for (int i = 0; i < MOST_TREES && i < founds; i++) {
                 loadFound(told, i);
                 int answer = seekFrom(told, turn, goal, foundSteps[i] + 1);
                 if (answer != NONE) {
