@@ -2587,7 +2587,7 @@ public final class GrammarTools {
                 int code = pattern.code[p];
                 if (isHole(code)) {
                     int stood = stands[code - HOLE];
-                    fine = stood != NONE && out.addAll(tree, stood);
+                    fine = stood != NONE && out.addRange(tree, stood, tree.end[stood]);
                 } else {
                     fine = out.add(code);
                 }
@@ -2622,14 +2622,25 @@ public final class GrammarTools {
                 return 0;
             }
             addFound(side(turn, 0), 0);
-            for (int i = 0; i < MOST_TREES && i < founds; i++) {
+            int answer = NONE;
+            for (int i = 0; i < MOST_TREES && i < founds && answer == NONE; i++) {
                 loadFound(told, i);
-                int answer = seekFrom(told, turn, goal, foundSteps[i] + 1);
-                if (answer != NONE) {
-                    return answer;
+                for (int way = 0; way < TURNS * 2 && answer == NONE; way++) {
+                    if (way / 2 != turn && isWay(way, goal.telling)) {
+                        answer = seekBy(told, way, goal, foundSteps[i] + 1);
+                    }
                 }
             }
-            return NONE;
+            return answer;
+        }
+
+        /** Even ways go from a law's before to its after, odd ones back, if no hole is lost there. */
+        private boolean isWay(int way, int v) {
+            int law = way / 2;
+            if (!there[law] || !isLaw[law] || side(law, 0).telling != v) {
+                return false;
+            }
+            return way % 2 == 0 || holesIn(side(law, 0)) == holesIn(side(law, 1));
         }
 
         private void addFound(Tree tree, int steps) {
@@ -2647,25 +2658,11 @@ public final class GrammarTools {
             from.index(told.slots);
         }
 
-        /** Goes by each law, either way, at each node: the steps to the goal, none, or spent. */
-        private int seekFrom(Telling told, int turn, Tree goal, int steps) {
-            int v = side(turn, 0).telling;
-            int answer = NONE;
-            for (int law = 0; law < TURNS && answer == NONE; law++) {
-                if (law != turn && there[law] && isLaw[law] && side(law, 0).telling == v) {
-                    answer = seekBy(told, side(law, 0), side(law, 1), goal, steps);
-                    boolean back = holesIn(side(law, 0)) == holesIn(side(law, 1));
-                    if (answer == NONE && back) {
-                        answer = seekBy(told, side(law, 1), side(law, 0), goal, steps);
-                    }
-                }
-            }
-            return answer;
-        }
-
-        private int seekBy(Telling told, Tree out, Tree in, Tree goal, int steps) {
+        /** Goes one way at each node: the steps to the goal, none, or that the trees are too many. */
+        private int seekBy(Telling told, int way, Tree goal, int steps) {
             for (int n = 0; n < from.nodes; n++) {
-                if (matches(told, out, from, from.nodeAt[n]) && turnAt(from.nodeAt[n], in)) {
+                int at = from.nodeAt[n];
+                if (matches(told, sides[way], from, at) && turnAt(at, sides[way ^ 1])) {
                     if (isRow(next, goal.code, goal.count)) {
                         return steps;
                     }
