@@ -10,6 +10,8 @@ public final class GrammarTools {
     private static final int PAIRS = 4, TURNS = 6, HOLES = 16, SHEETS = 4, SHEET_FORMS = 4, SHEET_CELLS = 40;
     /** Codes: words from 0 on, and these. Holes and nodes stand in trees only. */
     private static final int NAME = 20, NUMBER = 40, SORT = 60, HOLE = 200, NODE = 1000;
+    /** Items that are no sorts: words, a name, a number, in the order of their codes. */
+    private static final int RANKS = WORDS + 2;
     /** A tree of 40 nodes has its first one and at most five pieces in each. */
     private static final int PIECES = 1 + NODES * ITEMS;
     /** No tree is deeper than its nodes are many. */
@@ -982,6 +984,20 @@ public final class GrammarTools {
         return item == NUMBER ? isNumber(code) : item == code;
     }
 
+    private static int rankOfItem(int item) {
+        if (item == NAME) {
+            return WORDS;
+        }
+        return item == NUMBER ? WORDS + 1 : item;
+    }
+
+    private static int itemOfRank(int rank) {
+        if (rank < WORDS) {
+            return rank;
+        }
+        return rank == WORDS ? NAME : NUMBER;
+    }
+
     // ---- smaller steps
 
     private static int swap(int[] row, int i, int x) {
@@ -1376,7 +1392,6 @@ public final class GrammarTools {
         private static final int MANY = 1000;
         private static final int EDGES = CELLS + 1;
         private static final int SPANS = EDGES * EDGES;
-        private static final int KINDS_OF_CELLS = WORDS + 2;
         /** Forms of one sort alone lead upwards, so that no chain on one part is longer than this. */
         private static final int ROUNDS = 20;
 
@@ -1387,7 +1402,7 @@ public final class GrammarTools {
         private final int[] waysRest = new int[FORMS * ITEMS * SPANS];
         private final int[] least = new int[SORTS * SPANS];
         private final int[] leastRest = new int[FORMS * ITEMS * SPANS];
-        private final int[] nextFit = new int[KINDS_OF_CELLS * EDGES];
+        private final int[] nextFit = new int[RANKS * EDGES];
 
         Reader(Telling first) {
             told = first;
@@ -1466,27 +1481,13 @@ public final class GrammarTools {
             return least[spot(0, 0, size)];
         }
 
-        private static int kindOfCell(int item) {
-            if (item == NAME) {
-                return WORDS;
-            }
-            return item == NUMBER ? WORDS + 1 : item;
-        }
-
-        private static int itemOfKind(int kind) {
-            if (kind < WORDS) {
-                return kind;
-            }
-            return kind == WORDS ? NAME : NUMBER;
-        }
-
         private void findFits() {
-            for (int kind = 0; kind < KINDS_OF_CELLS; kind++) {
+            for (int rank = 0; rank < RANKS; rank++) {
                 int next = CELLS;
-                nextFit[kind * EDGES + size] = next;
+                nextFit[rank * EDGES + size] = next;
                 for (int from = size - 1; from >= 0; from--) {
-                    next = suits(itemOfKind(kind), text[from]) ? from : next;
-                    nextFit[kind * EDGES + from] = next;
+                    next = suits(itemOfRank(rank), text[from]) ? from : next;
+                    nextFit[rank * EDGES + from] = next;
                 }
             }
         }
@@ -1545,7 +1546,7 @@ public final class GrammarTools {
             if (item >= SORT) {
                 return least[spot(item - SORT, from, to)];
             }
-            boolean found = nextFit[kindOfCell(item) * EDGES + from] < to;
+            boolean found = nextFit[rankOfItem(item) * EDGES + from] < to;
             return found ? to - from - 1 : Math.max(to - from, 1);
         }
 
@@ -1572,7 +1573,7 @@ public final class GrammarTools {
             if (isWord(item)) {
                 return true;
             }
-            int fit = nextFit[kindOfCell(item) * EDGES + from];
+            int fit = nextFit[rankOfItem(item) * EDGES + from];
             return out.add(fit < to ? text[fit] : item);
         }
 
@@ -1602,7 +1603,6 @@ public final class GrammarTools {
     private static final class Rows {
         static final int LONGEST = 4;
         private static final int MOST = 100;
-        private static final int BASE = WORDS + 2;
 
         int twoCells;
         private int twoRow;
@@ -1650,24 +1650,13 @@ public final class GrammarTools {
             }
             int rest = twoRow;
             for (int k = twoCells - 1; k > i; k--) {
-                rest /= BASE;
+                rest /= RANKS;
             }
-            int digit = rest % BASE;
-            if (digit < WORDS) {
-                return digit;
-            }
-            return digit == WORDS ? NAME : NUMBER;
+            return itemOfRank(rest % RANKS);
         }
 
         private static int shelf(int sort, int m) {
             return sort * LONGEST + m - 1;
-        }
-
-        private static int digitOf(int item) {
-            if (item == NAME) {
-                return WORDS;
-            }
-            return item == NUMBER ? WORDS + 1 : item;
         }
 
         private void gatherSort(Telling told, int sort, int m) {
@@ -1718,14 +1707,14 @@ public final class GrammarTools {
                 int which = partRows[k] > 0 ? rest % partRows[k] : 0;
                 rest = partRows[k] > 0 ? rest / partRows[k] : 0;
                 for (int c = 0; c < partCells[k]; c++) {
-                    value *= BASE;
+                    value *= RANKS;
                 }
                 if (isSort(item)) {
                     int place = shelf(item - SORT, partCells[k]) * MOST + which;
                     value += row[place];
                     readings *= weight[place];
                 } else {
-                    value += digitOf(item);
+                    value += rankOfItem(item);
                 }
             }
             insert(of, value, Math.min(readings, 2));

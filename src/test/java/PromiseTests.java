@@ -1376,6 +1376,17 @@ public final class PromiseTests {
         due(x.blamed(1, 0), NONE);
         due(x.blamed(2, NONE), UNKNOWN);
         due(x.blamed(12, NONE), UNKNOWN);
+        // a use ahead of its tell, as the first leaf
+        GrammarTools z = lets();
+        tree(z, 0, 2, 20, 6, 20, 40);
+        z.rule(0, 3, 0, 3);
+        due(z.kind(0, 0, true), 3);
+        z.rule(0, 0, 0, 4);
+        due(z.kind(0, 0, true), 9);
+        due(z.blamed(0, NONE), 3);
+        due(z.blamed(0, 0), 100);
+        due(z.blamed(0, 1), 200);
+        due(z.blamed(0, 2), 10000);
         // what comes first is let go first: of two rules that say the same the later one is left
         GrammarTools y = pairs();
         y.rule(0, 0, NONE, 0);
@@ -1495,9 +1506,9 @@ public final class PromiseTests {
         worked(x, 4, 5);
         // if: the second where the first is 0, else the third
         x.mean(0, 5, 5);
+        x.mean(0, 2, 1);
         tree(x, 0, 8, 40, 42, 2, 43, 44);
         worked(x, 3, 2);
-        x.mean(0, 2, 1);
         tree(x, 0, 8, 41, 42, 2, 43, 44);
         worked(x, 5, 7);
         // let: form 3 has a name first, form 5 a node
@@ -1841,7 +1852,6 @@ public final class PromiseTests {
         x.law(0, true);
         turnOf(x, 1, row(2, 20, 21), row(2, 21, 20));
         due(x.kept(1), SPENT);
-        // names 0 to 15 and 43 numbers: 59 laws that change name 0 are too many; a chain is told by numbers
         GrammarTools y = new GrammarTools();
         form(y, 0, 0, 20);
         form(y, 0, 0, 2, 60);
@@ -1849,7 +1859,7 @@ public final class PromiseTests {
         show(y, row(2, 2, 20), row(2, 20));
         y.find(0);
         y.law(0, true);
-        // one tree a step: 40 nodes are the end of the way, and other trees are not sought
+        // one tree a step: trees of more than 40 nodes are left out, so that is the end of the way
         turnOf(y, 1, row(20), row(21));
         due(y.kept(1), NONE);
         turnOf(y, 1, row(20), row(2, 2, 2, 2, 2, 20));
