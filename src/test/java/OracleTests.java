@@ -2076,11 +2076,11 @@ public final class OracleTests {
                 }
                 return;
             }
-            int sorts = 1 + to(4);
+            int sorts = 1 + to(6);
             for (int n = 2 + to(8); n > 0; n--) {
                 tellForm(v, randomForm(sorts));
             }
-            for (int sort = 0; sort < sorts && chance(90); sort++) {
+            for (int sort = 0; sort < sorts && chance(95); sort++) {
                 tellForm(v, new int[] {sort, one(20, 40, 20, 40, 7)});
             }
         }

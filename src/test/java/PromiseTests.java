@@ -472,6 +472,16 @@ public final class PromiseTests {
         mendings();
     }
 
+    /** Forms 0 to 5: a sort that is the next one, and word 5. */
+    private static GrammarTools sortChain() {
+        GrammarTools x = new GrammarTools();
+        for (int sort = 0; sort < 5; sort++) {
+            form(x, 0, sort, 61 + sort);
+        }
+        form(x, 0, 5, 5);
+        return x;
+    }
+
     private static void readings() {
         of(17);
         GrammarTools x = sums();
@@ -496,6 +506,10 @@ public final class PromiseTests {
             y.cell(0, 20);
             due(y.readings(0, 0), ways[n]);
         }
+        GrammarTools chain = sortChain();
+        text(chain, 0, 5);
+        due(chain.readings(0, 0), 1);
+        due(chain.read(0, 0, 0), 6);
         form(y, 0, 1, 5);
         form(y, 0, 0, 20);
         text(y, 0, 20);
@@ -582,6 +596,11 @@ public final class PromiseTests {
         form(y, 0, 0, 60, 60);
         form(y, 0, 1, 20);
         due(y.idle(0), 3);
+        due(sortChain().idle(0), 0);
+        for (int sort = 5; sort >= 0; sort--) {
+            form(y, 1, sort, sort == 5 ? 20 : 61 + sort);
+        }
+        due(y.idle(1), 0);
     }
 
     private static void rowsAndTwo() {
@@ -600,6 +619,8 @@ public final class PromiseTests {
         due(x.rows(0, 0, 0), OUTSIDE);
         due(x.rows(0, 0, 5), OUTSIDE);
         due(x.rows(2, 9, 9), UNKNOWN);
+        due(sortChain().rows(0, 0, 1), 1);
+        due(sortChain().rows(0, 5, 1), 1);
         // ten words alone: 10, 100 and then 1000 rows
         GrammarTools y = new GrammarTools();
         for (int word = 0; word < 10; word++) {
@@ -689,6 +710,21 @@ public final class PromiseTests {
         due(x.price(1, 1), 2);
         text(x, 1, 3, 1);
         due(x.price(1, 1), 3);
+        GrammarTools chain = sortChain();
+        due(chain.price(0, 0), 1);
+        text(chain, 0, 5, 5);
+        due(chain.price(0, 0), 1);
+        // sorts that wait for lesser ones: a row of word 1 alone is all the others' but five words'
+        GrammarTools w = new GrammarTools();
+        form(w, 0, 0, 65, 5);
+        form(w, 0, 5, 64, 4);
+        form(w, 0, 4, 63, 3);
+        form(w, 0, 3, 62, 2);
+        form(w, 0, 2, 61, 0);
+        form(w, 0, 1, 1);
+        due(w.price(0, 0), 6);
+        text(w, 0, 1);
+        due(w.price(0, 0), 5);
         due(x.price(2, 0), UNKNOWN);
         due(x.price(0, 8), UNKNOWN);
         due(x.price(-1, -1), UNKNOWN);
@@ -1220,6 +1256,23 @@ public final class PromiseTests {
         due(y.size(1, 0), 33);
         due(y.join(0, 1, 0, 3), 0);
         due(y.size(3, 0), 33);
+        // just 40 nodes, and one more
+        GrammarTools z = chains();
+        tree(z, 1, 3, 20, 21);
+        z.keep(2, 1);
+        z.keep(3, 1);
+        turnOf(z, 1, row(20), row(2, 20));
+        turnOf(z, 2, row(21), row(2, 21));
+        for (int i = 0; i < 18; i++) {
+            z.apply(1, 2, 2);
+            z.apply(2, 3, 3);
+        }
+        z.apply(2, 3, 3);
+        due(z.join(1, 2, 3, 4), 0);
+        due(z.size(4, 0), 40);
+        z.apply(2, 3, 3);
+        due(z.join(1, 2, 3, 5), LARGE);
+        due(z.size(5, 0), UNKNOWN);
     }
 
     // ---- names
@@ -1677,9 +1730,10 @@ public final class PromiseTests {
         grow(w, 1, 51, 100);
         grow(w, 1, 52, 110);
         due(w.size(0, 1), 17);
+        tree(w, 2, 40);
         w.hide();
-        w.show(0, 0);
-        w.show(1, 1);
+        w.show(0, 2);
+        w.show(1, 2);
         due(w.find(1), NOT);
         due(w.turned(1, 0, 0), UNKNOWN);
     }
@@ -1755,6 +1809,27 @@ public final class PromiseTests {
         due(x.apply(1, 5, 6), LARGE);
         due(x.size(6, 0), UNKNOWN);
         due(x.size(5, 0), 31);
+        // one more at a time, up to 40 nodes
+        GrammarTools y = chains();
+        for (int n = 2; n < 40; n++) {
+            due(y.apply(0, 0, 0), 1);
+        }
+        due(y.size(0, 0), 40);
+        due(y.apply(0, 0, 1), LARGE);
+        due(y.size(1, 0), UNKNOWN);
+    }
+
+    /** Forms of sort 0: 0 a name, 1 one after word 2, 2 two after word 3; turn 0 puts word 2 ahead; tree 0 is of 2 nodes. */
+    private static GrammarTools chains() {
+        GrammarTools x = new GrammarTools();
+        form(x, 0, 0, 20);
+        form(x, 0, 0, 2, 60);
+        form(x, 0, 0, 3, 60, 60);
+        show(x, row(2, 20), row(2, 2, 20));
+        show(x, row(2, 2, 20), row(2, 2, 2, 20));
+        x.find(0);
+        tree(x, 0, 2, 20);
+        return x;
     }
 
     private static void laws() {
