@@ -1,13 +1,5 @@
 /** For each promise of the document: ordinary calls, the edges that it names, and wrong calls. */
-public final class PromiseTests {
-    private static final int NONE = GrammarTools.NONE, UNKNOWN = GrammarTools.UNKNOWN, OUTSIDE = GrammarTools.OUTSIDE;
-    private static final int NOT = GrammarTools.NOT, FULL = GrammarTools.FULL, SPENT = GrammarTools.SPENT, LARGE = GrammarTools.LARGE;
-    private static final int MIN = Integer.MIN_VALUE, MAX = Integer.MAX_VALUE;
-
-    private static int promise;
-    private static int asked;
-    private static int wrong;
-
+public final class PromiseTests extends Asking {
     public static void main(String[] args) {
         tellings();
         texts();
@@ -21,97 +13,7 @@ public final class PromiseTests {
         turns();
         carrying();
         teacherAndSheets();
-        System.out.println(wrong == 0 ? "all promises are kept" : wrong + " answers are not as due");
-        if (wrong != 0) {
-            System.exit(1);
-        }
-    }
-
-    // ---- small helpers
-
-    private static void of(int number) {
-        promise = number;
-        asked = 0;
-    }
-
-    private static void due(long got, long want) {
-        asked++;
-        if (got != want) {
-            wrong++;
-            System.out.println("promise " + promise + ", question " + asked + ": answered " + got + ", due is " + want);
-        }
-    }
-
-    private static int form(GrammarTools x, int v, int sort, int... items) {
-        int[] a = {NONE, NONE, NONE, NONE, NONE};
-        System.arraycopy(items, 0, a, 0, items.length);
-        return x.form(v, sort, a[0], a[1], a[2], a[3], a[4]);
-    }
-
-    /** Forms: 0 a part; 1 sum and part; parts: 2 number, 3 name, 4 in brackets, 5 word 4, name, word 5, sum. */
-    private static GrammarTools sums() {
-        GrammarTools x = new GrammarTools();
-        tellSums(x, 0);
-        return x;
-    }
-
-    private static void tellSums(GrammarTools x, int v) {
-        form(x, v, 0, 61);
-        form(x, v, 0, 60, 0, 61);
-        form(x, v, 1, 40);
-        form(x, v, 1, 20);
-        form(x, v, 1, 2, 60, 3);
-        form(x, v, 1, 4, 20, 5, 60);
-    }
-
-    /** Forms of sort 0 alone: 0 a name; 1 a number; 2 two after word 2; 3 a name and two after word 3. */
-    private static GrammarTools pairs() {
-        GrammarTools x = new GrammarTools();
-        form(x, 0, 0, 20);
-        form(x, 0, 0, 40);
-        form(x, 0, 0, 2, 60, 60);
-        form(x, 0, 0, 3, 20, 60, 60);
-        return x;
-    }
-
-    private static void text(GrammarTools x, int t, int... codes) {
-        x.wipe(t);
-        for (int code : codes) {
-            x.cell(t, code);
-        }
-    }
-
-    private static int tree(GrammarTools x, int tree, int... codes) {
-        return treeOf(x, 0, tree, codes);
-    }
-
-    private static int treeOf(GrammarTools x, int v, int tree, int... codes) {
-        text(x, 7, codes);
-        return x.read(v, 7, tree);
-    }
-
-    private static void spelled(GrammarTools x, int tree, int... codes) {
-        for (int i = 0; i < codes.length; i++) {
-            due(x.spell(tree, i), codes[i]);
-        }
-        due(x.spell(tree, codes.length), NONE);
-    }
-
-    private static void turnedTo(GrammarTools x, int turn, int side, int... codes) {
-        for (int i = 0; i < codes.length; i++) {
-            due(x.turned(turn, side, i), codes[i]);
-        }
-        due(x.turned(turn, side, codes.length), NONE);
-    }
-
-    private static void show(GrammarTools x, int[] before, int[] after) {
-        tree(x, 10, before);
-        tree(x, 11, after);
-        x.show(10, 11);
-    }
-
-    private static int[] row(int... codes) {
-        return codes;
+        end("all promises are kept");
     }
 
     // ---- tellings
@@ -1277,20 +1179,6 @@ public final class PromiseTests {
 
     // ---- names
 
-    /** Forms of sort 0: 0 a use; 1 a tell and two; 2 two; 3 a tell seen all through, and one. 1 is a scope. */
-    private static GrammarTools lets() {
-        GrammarTools x = new GrammarTools();
-        form(x, 0, 0, 20);
-        form(x, 0, 0, 4, 20, 60, 60);
-        form(x, 0, 0, 2, 60, 60);
-        form(x, 0, 0, 6, 20, 60);
-        form(x, 0, 0, 40);
-        x.name(0, 1, 0, 1);
-        x.name(0, 3, 0, 2);
-        x.scope(0, 1, true);
-        return x;
-    }
-
     private static void names() {
         bounds();
         renames();
@@ -1819,19 +1707,6 @@ public final class PromiseTests {
         due(y.size(1, 0), UNKNOWN);
     }
 
-    /** Forms of sort 0: 0 a name, 1 one after word 2, 2 two after word 3; turn 0 puts word 2 ahead; tree 0 is of 2 nodes. */
-    private static GrammarTools chains() {
-        GrammarTools x = new GrammarTools();
-        form(x, 0, 0, 20);
-        form(x, 0, 0, 2, 60);
-        form(x, 0, 0, 3, 60, 60);
-        show(x, row(2, 20), row(2, 2, 20));
-        show(x, row(2, 2, 20), row(2, 2, 2, 20));
-        x.find(0);
-        tree(x, 0, 2, 20);
-        return x;
-    }
-
     private static void laws() {
         of(53);
         GrammarTools x = pairs();
@@ -1847,12 +1722,6 @@ public final class PromiseTests {
         due(x.law(0, true), UNKNOWN);
         due(x.law(6, true), UNKNOWN);
         due(x.law(-1, true), UNKNOWN);
-    }
-
-    private static void turnOf(GrammarTools x, int turn, int[] before, int[] after) {
-        x.hide();
-        show(x, before, after);
-        x.find(turn);
     }
 
     private static void swapLaw(GrammarTools x, int turn) {
