@@ -4,10 +4,13 @@ public final class NameEdgeTests extends Asking {
     public static void main(String[] args) {
         boundRefused();
         reachOfTells();
+        rightBehindTheScope();
         whatComesBehind();
         innermostReach();
         lastAheadElseFirstBehind();
         usesCounted();
+        smallerTreeThanBefore();
+        fullestTree();
         renameRefused();
         renamedToEdges();
         caught();
@@ -17,6 +20,7 @@ public final class NameEdgeTests extends Asking {
         alikeGoesOn();
         blamedRefused();
         blamedLetGoInOrder();
+        othersAreNotBlamed();
         blamedUses();
         blamedInTheLastNode();
         worlds();
@@ -29,6 +33,7 @@ public final class NameEdgeTests extends Asking {
         letAndIf();
         notNeeded();
         wrappedValues();
+        runsOfEitherTelling();
         latestValue();
         end("the edges of names, kinds and meaning hold");
     }
@@ -80,6 +85,26 @@ public final class NameEdgeTests extends Asking {
         // leaves: 25; 21; 20 told, 20, 20; 20 in the scope; 20 behind it
         due(x.bound(1, 5), 2);
         due(x.bound(1, 6), NONE);
+    }
+
+    private static void rightBehindTheScope() {
+        of(39, "a LEAF right ahead of the SCOPE and right behind it is not in it");
+        GrammarTools x = new GrammarTools();
+        form(x, 0, 0, 1, 20, 61, 20);
+        form(x, 0, 1, 20);
+        form(x, 0, 1, 2, 20, 61, 20);
+        x.scope(0, 1, true);
+        x.scope(0, 2, true);
+        x.name(0, 1, 0, 2);
+        x.name(0, 2, 0, 2);
+        tree(x, 0, 1, 25, 25, 25);
+        due(x.bound(0, 0), NONE);
+        due(x.uses(0, 1), 0);
+        due(x.bound(0, 2), NONE);
+        tree(x, 0, 1, 25, 2, 25, 26, 25, 25);
+        due(x.bound(0, 0), NONE);
+        due(x.bound(0, 3), 1);
+        due(x.bound(0, 4), NONE);
     }
 
     private static void whatComesBehind() {
@@ -165,6 +190,76 @@ public final class NameEdgeTests extends Asking {
         tree(x, 0, 4, 20, 20, 4, 20, 20, 20);
         due(x.uses(0, 0), 1);
         due(x.uses(0, 2), 2);
+    }
+
+    private static void smallerTreeThanBefore() {
+        of(40, "nothing of a larger TREE, asked ahead of it");
+        GrammarTools x = lets();
+        tree(x, 0, 2, 20, 2, 6, 20, 2, 20, 20, 6, 20, 20);
+        tree(x, 1, 6, 20, 20);
+        tree(x, 2, 2, 20, 20);
+        for (int l = 0; l < 6; l++) {
+            x.bound(0, l);
+        }
+        due(x.uses(0, 1), 3);
+        due(x.uses(1, 0), 1);
+        due(x.uses(0, 1), 3);
+        due(x.bound(2, 0), NONE);
+        due(x.uses(0, 1), 3);
+        due(x.rename(1, 0, 7), 1);
+        spelled(x, 1, 6, 27, 27);
+        text(x, 0, 20, 1);
+        due(x.hint(0, 0, 0), 1);
+        text(x, 0, 6, 20, 20);
+        due(x.uses(0, 1), 3);
+        due(x.hint(0, 0, 0), 0);
+    }
+
+    private static void fullestTree() {
+        of(39, "40 NODES with five SLOTS each: 161 LEAVES");
+        GrammarTools x = new GrammarTools();
+        form(x, 0, 0, 60, 20, 20, 20, 20);
+        form(x, 0, 0, 20, 20, 20, 20, 20);
+        tree(x, 0, times(5, 20));
+        turnOf(x, 0, times(5, 20), times(9, 20));
+        for (int n = 1; n < 40; n++) {
+            x.apply(0, 0, 0);
+        }
+        due(x.bound(0, 160), NONE);
+        due(x.bound(0, 161), UNKNOWN);
+        x.name(0, 0, 3, 1);
+        x.name(0, 0, 3, 2);
+        // leaves 7, 11, .. 159 are tells, the first five are of the last node
+        due(x.bound(0, 160), 159);
+        due(x.bound(0, 159), NOT);
+        due(x.bound(0, 0), 7);
+        x.name(0, 0, 3, 0);
+        x.name(0, 1, 0, 1);
+        due(x.uses(0, 0), 160);
+        of(41, "a TELL with 160 USES");
+        due(x.rename(0, 0, 15), 1);
+        due(x.leaf(0, 160, 0), 35);
+        due(x.spell(0, 0), 35);
+        of(43, "160 USES that are ALIKE one TELL");
+        x.rule(0, 1, 0, 1);
+        due(x.kind(0, 160, true), 1);
+        due(x.blamed(0, NONE), 0);
+        x.rule(0, 0, 4, 2);
+        due(x.blamed(0, NONE), 3);
+        int[] blamed = {3800, 3900, 10000 + 8};
+        for (int i = 0; i < 3; i++) {
+            due(x.blamed(0, i), blamed[i]);
+        }
+        for (int i = 0; i < 5; i++) {
+            x.rule(0, 0, 4, 2);
+            x.rule(0, 1, 0, 1);
+        }
+        due(x.blamed(0, NONE), 3);
+        int[] later = {3805, 3905, 10000 + 8};
+        for (int i = 0; i < 3; i++) {
+            due(x.blamed(0, i), later[i]);
+        }
+        due(x.kind(0, 160, true), 9);
     }
 
     private static void renameRefused() {
@@ -398,6 +493,41 @@ public final class NameEdgeTests extends Asking {
         // left: slots alike, and the kind of either: of the two of kind 3 the later one
         due(x.blamed(0, NONE), 2);
         due(x.blamed(0, 0), 1);
+        due(x.blamed(0, 1), 3);
+    }
+
+    private static void othersAreNotBlamed() {
+        of(43, "what is HELD behind them, of the same PIECE, is let go");
+        GrammarTools x = new GrammarTools();
+        form(x, 0, 0, 20, 20);
+        tree(x, 0, 20, 21);
+        x.rule(0, 0, 0, 1);
+        x.rule(0, 0, 0, 2);
+        x.rule(0, 0, 0, 11);
+        x.rule(0, 0, NONE, 10);
+        due(x.kind(0, 1, true), 9);
+        due(x.blamed(0, NONE), 2);
+        due(x.blamed(0, 0), 0);
+        due(x.blamed(0, 1), 1);
+        of(43, "what is HELD ahead of them, of the same PIECE, is let go");
+        x.unrule(0, 0);
+        x.rule(0, 0, NONE, 10);
+        x.rule(0, 0, 0, 11);
+        x.rule(0, 0, 0, 1);
+        x.rule(0, 0, 1, 2);
+        due(x.blamed(0, NONE), 3);
+        int[] blamed = {1, 2, 3};
+        for (int i = 0; i < 3; i++) {
+            due(x.blamed(0, i), blamed[i]);
+        }
+        of(43, "of two ways to a FAULT the one that is HELD later");
+        x.unrule(0, 0);
+        x.rule(0, 0, 0, 1);
+        x.rule(0, 0, 0, 2);
+        x.rule(0, 0, 1, 3);
+        x.rule(0, 0, 1, 4);
+        due(x.blamed(0, NONE), 2);
+        due(x.blamed(0, 0), 2);
         due(x.blamed(0, 1), 3);
     }
 
@@ -711,6 +841,19 @@ public final class NameEdgeTests extends Asking {
         x.world(0, 0, 65537);
         x.world(0, 1, 65537);
         worked(x, 0, 1, 131073);
+    }
+
+    private static void runsOfEitherTelling() {
+        of(45, "each FORM has the MEANING of its own TELLING");
+        GrammarTools x = sums();
+        tellSums(x, 1);
+        x.mean(0, 1, 1);
+        x.mean(1, 1, 2);
+        tree(x, 0, 45, 0, 46);
+        treeOf(x, 1, 1, 45, 0, 46);
+        worked(x, 0, 4, 11);
+        worked(x, 1, 4, 30);
+        worked(x, 0, 4, 11);
     }
 
     private static void latestValue() {

@@ -13,6 +13,7 @@ public final class ReaderEdgeTests extends Asking {
         idleNone();
         idleHoweverLong();
         idleAll();
+        readerOfClearedTelling();
         rowsRefused();
         hundredRows();
         spentByAnySort();
@@ -302,6 +303,26 @@ public final class ReaderEdgeTests extends Asking {
         due(x.idle(1), 3);
     }
 
+    private static void readerOfClearedTelling() {
+        of(19, "nothing is left of FORMS that are gone");
+        GrammarTools x = new GrammarTools();
+        form(x, 0, 0, 1, 61, 62, 63, 64);
+        form(x, 0, 1, 60, 20);
+        x.clear(0);
+        form(x, 0, 0, 1);
+        form(x, 0, 1, 20);
+        due(x.forms(0, 0, 2), 0);
+        due(x.forms(0, 1, 2), 1);
+        due(x.idle(0), 2);
+        text(x, 0, 1);
+        due(x.readings(0, 0), 1);
+        due(x.read(0, 0, 0), 1);
+        due(x.size(0, 1), 0);
+        due(x.price(0, 0), 0);
+        due(x.rows(0, 0, 1), 1);
+        due(x.rows(0, 0, 2), 0);
+    }
+
     private static void rowsRefused() {
         GrammarTools x = sums();
         of(20, "1 .. 4 CELLS");
@@ -474,6 +495,19 @@ public final class ReaderEdgeTests extends Asking {
         of(21, "a row with one READING alone is not it");
         form(y, 0, 0, 0, 0, 0);
         due(y.two(0, 3, 0), 1);
+        of(21, "rows with one READING ahead of it and behind it, told later");
+        GrammarTools z = new GrammarTools();
+        form(z, 0, 0, 20, 5);
+        form(z, 0, 0, 20, 5);
+        form(z, 0, 0, 40, 5);
+        form(z, 0, 0, 11, 5);
+        due(z.rows(0, 0, 2), 3);
+        due(z.two(0, 2, NONE), 2);
+        due(z.two(0, 2, 0), 20);
+        form(z, 0, 0, 10, 5);
+        form(z, 0, 0, 20, 4);
+        due(z.two(0, 2, 0), 20);
+        due(z.two(0, 2, 1), 5);
     }
 
     private static void twoSpent() {

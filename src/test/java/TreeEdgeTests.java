@@ -21,6 +21,7 @@ public final class TreeEdgeTests extends Asking {
         gapsBetween();
         reachBeyond();
         leastCostFirst();
+        pinsOfEarlierLayings();
         fewestOpenFirst();
         leastSetFirst();
         columnsOfOpenNodes();
@@ -29,6 +30,7 @@ public final class TreeEdgeTests extends Asking {
         distances();
         unlikeTellings();
         greatestDistance();
+        fullestTree();
         moves();
         movesOfLikeOnes();
         joinRefused();
@@ -541,6 +543,27 @@ public final class TreeEdgeTests extends Asking {
         due(x.lay(0, 60, 2), 1);
     }
 
+    private static void pinsOfEarlierLayings() {
+        of(34, "PINS that are no more, and those of another TREE, are not kept");
+        GrammarTools x = new GrammarTools();
+        form(x, 0, 0, 1, 1, 1);
+        x.gap(0, 0, 0, 2);
+        tree(x, 0, 1, 1, 1);
+        tree(x, 1, 1, 1, 1);
+        x.pin(0, 0, 2);
+        due(x.lay(0, 10, 2), 0);
+        due(x.lay(1, 10, 2), 1);
+        x.pin(0, 0, 0);
+        due(x.lay(0, 10, 2), 1);
+        x.pin(0, 0, 1);
+        due(x.lay(0, 60, 2), 1);
+        due(x.lay(1, 60, 2), 0);
+        x.pin(0, 0, 2);
+        due(x.lay(0, 10, 2), 0);
+        x.keep(0, 0);
+        due(x.lay(0, 10, 2), 1);
+    }
+
     private static void fewestOpenFirst() {
         of(34, "of like ones the fewest OPEN");
         GrammarTools x = new GrammarTools();
@@ -764,6 +787,58 @@ public final class TreeEdgeTests extends Asking {
         due(y.size(1, 0), 39);
         due(y.distance(0, 1), 1);
         due(y.distance(0, 0), 0);
+    }
+
+    private static void fullestTree() {
+        of(36, "40 NODES with five SLOTS each: 201 PIECES");
+        GrammarTools x = new GrammarTools();
+        for (int v = 0; v < 2; v++) {
+            form(x, v, 0, 60, 20, 20, 20, 20);
+            form(x, v, 0, 20, 20, 20, 20, 20);
+        }
+        tree(x, 0, times(5, 20));
+        turnOf(x, 0, times(5, 20), times(9, 20));
+        for (int n = 1; n < 40; n++) {
+            x.apply(0, 0, 0);
+        }
+        treeOf(x, 1, 1, times(5, 20));
+        x.hide();
+        treeOf(x, 1, 10, times(5, 20));
+        treeOf(x, 1, 11, times(9, 20));
+        x.show(10, 11);
+        x.find(1);
+        for (int n = 1; n < 40; n++) {
+            x.apply(1, 1, 1);
+        }
+        due(x.size(0, 0), 40);
+        due(x.size(1, 1), 161);
+        due(x.distance(0, 0), 0);
+        due(x.distance(0, 1), 40);
+        due(x.distance(1, 0), 40);
+        tree(x, 2, times(5, 35));
+        due(x.distance(0, 2), 39 + 156 + 5);
+        due(x.distance(2, 0), 39 + 156 + 5);
+        of(37, "39 of its NODES; none of the other TELLING");
+        due(x.move(0, 0, 2), 39);
+        due(x.move(0, 1, 2), NONE);
+        of(24, "it is WRITTEN, kept and joined");
+        due(x.size(0, 2), 161);
+        due(x.spell(0, 160), 20);
+        due(x.spell(0, 161), NONE);
+        due(x.leaf(0, 160, 1), 0);
+        due(x.leaf(0, 160, 2), 4);
+        due(x.leaf(0, 0, 1), 39);
+        due(x.node(0, 39, 1), 38);
+        due(x.slot(0, 0, 4), 20);
+        due(x.write(0, 0), LARGE);
+        due(x.keep(3, 0), 40);
+        due(x.join(0, 3, 0, 4), 0);
+        due(x.like(4, 0, 0, 0), 1);
+        due(x.join(2, 0, 0, 4), 0);
+        due(x.size(4, 1), 161);
+        of(34, "it is laid in one line");
+        due(x.lay(0, 60, 3), 161 * 3 - 1);
+        due(x.laid(0, 60, 160, 1), 160 * 3);
     }
 
     private static void moves() {

@@ -9,6 +9,7 @@ public final class TurnEdgeTests extends Asking {
         findRefused();
         onePairAndFour();
         likeRowsOfPieces();
+        rowsLikeInOnePair();
         aftersWithoutHoles();
         beforeAHoleAlone();
         sixteenHoles();
@@ -19,8 +20,10 @@ public final class TurnEdgeTests extends Asking {
         appliedNowhere();
         nothingWithin();
         appliedUpToForty();
+        fullestTree();
         lawsTold();
         keptInNoStep();
+        keptToAnotherFirstForm();
         notByItself();
         lawsOfItsTelling();
         keptByHoles();
@@ -33,11 +36,13 @@ public final class TurnEdgeTests extends Asking {
         triedHoles();
         mapRefused();
         mapsOfSlots();
+        slotsBehindTheLast();
         mapsAnew();
         unmapped();
         carryRefused();
         carriedStands();
         carriedWithoutParts();
+        carriedInAnotherOrder();
         carriedForty();
         firstLeft();
         end("the edges of turns and carrying hold");
@@ -201,6 +206,21 @@ public final class TurnEdgeTests extends Asking {
         show(x, row(2, 20, 40), row(2, 21, 40));
         show(x, row(2, 21, 40), row(2, 20, 40));
         due(x.find(1), NOT);
+    }
+
+    private static void rowsLikeInOnePair() {
+        of(49, "rows that are like in the first pair alone, in the second, in the third");
+        for (int which = 0; which < 3; which++) {
+            GrammarTools x = pairs();
+            for (int pair = 0; pair < 3; pair++) {
+                int one = 20 + 2 * pair;
+                int other = pair == which ? one : one + 1;
+                show(x, row(2, one, other), row(2, other, one));
+            }
+            due(x.find(0), 2);
+            turnedTo(x, 0, 0, 2, 200, 201);
+            turnedTo(x, 0, 1, 2, 201, 200);
+        }
     }
 
     private static void aftersWithoutHoles() {
@@ -485,6 +505,50 @@ public final class TurnEdgeTests extends Asking {
         due(x.size(1, 0), 39);
     }
 
+    private static void fullestTree() {
+        of(52, "40 NODES with five SLOTS each: 161 LEAVES");
+        GrammarTools x = new GrammarTools();
+        form(x, 0, 0, 60, 20, 20, 20, 20);
+        form(x, 0, 0, 20, 20, 20, 20, 20);
+        form(x, 1, 0, 60, 20, 20, 20, 20);
+        form(x, 1, 0, 20, 20, 20, 20, 20);
+        tree(x, 0, times(5, 20));
+        turnOf(x, 0, times(5, 20), times(9, 20));
+        for (int n = 1; n < 40; n++) {
+            due(x.apply(0, 0, 0), 1);
+        }
+        due(x.size(0, 1), 161);
+        due(x.apply(0, 0, 1), LARGE);
+        due(x.fits(0, 0), 1);
+        of(49, "a TURN of it; a HOLE for its last LEAF");
+        turnOf(x, 1, times(5, 20), row(20, 20, 20, 20, 21));
+        due(x.apply(1, 0, 1), 1);
+        x.hide();
+        x.show(0, 0);
+        x.show(1, 1);
+        due(x.find(2), 1);
+        due(x.turned(2, 0, 4), 200);
+        due(x.turned(2, 1, 160), 20);
+        due(x.turned(2, 1, 161), NONE);
+        due(x.fits(2, 1), 1);
+        due(x.apply(2, 1, 2), 1);
+        due(x.like(1, 0, 2, 0), 1);
+        of(54, "from it to the other one");
+        x.hide();
+        x.show(0, 1);
+        x.find(3);
+        due(x.kept(3), NONE);
+        x.law(1, true);
+        due(x.kept(3), 1);
+        of(58, "it is carried");
+        x.map(0, 0, 0, 4, 3, 2, 1);
+        x.map(1, 1, 4, 3, 2, 1, 0);
+        due(x.carry(1, 3), 40);
+        due(x.spell(3, 0), 21);
+        due(x.spell(3, 160), 20);
+        due(x.size(3, 1), 161);
+    }
+
     private static void lawsTold() {
         GrammarTools x = pairs();
         show(x, row(20), row(21));
@@ -531,6 +595,22 @@ public final class TurnEdgeTests extends Asking {
         due(x.kept(0), 0);
         turnOf(x, 3, row(20), row(21));
         due(x.kept(3), NONE);
+    }
+
+    private static void keptToAnotherFirstForm() {
+        of(54, "BEFORE and AFTER that are so but for the first FORM");
+        GrammarTools x = new GrammarTools();
+        form(x, 0, 0, 20);
+        form(x, 0, 0, 1, 20);
+        form(x, 0, 0, 2, 20);
+        turnOf(x, 0, row(20), row(1, 20));
+        due(x.kept(0), NONE);
+        turnOf(x, 1, row(1, 20), row(2, 20));
+        x.law(1, true);
+        due(x.kept(0), NONE);
+        turnOf(x, 2, row(20), row(2, 20));
+        x.law(2, true);
+        due(x.kept(0), 2);
     }
 
     private static void notByItself() {
@@ -881,6 +961,23 @@ public final class TurnEdgeTests extends Asking {
         due(x.map(0, 4, 3, 0, 0, 0, 0), 2);
     }
 
+    private static void slotsBehindTheLast() {
+        of(56, "OUTSIDE: no SLOT of f, though the next FORM has one there");
+        GrammarTools x = new GrammarTools();
+        form(x, 0, 0, 20, 20, 20, 20, 20);
+        form(x, 0, 0, 20);
+        form(x, 1, 0, 20);
+        due(x.map(0, 0, 4, 0, 0, 0, 0), 1);
+        due(x.map(0, 0, 5, 0, 0, 0, 0), OUTSIDE);
+        due(x.map(1, 0, 1, 0, 0, 0, 0), OUTSIDE);
+        due(x.map(1, 0, -1, 0, 0, 0, 0), OUTSIDE);
+        of(56, "OUTSIDE: no SLOT of f, though an earlier FORM had one there");
+        x.clear(0);
+        form(x, 0, 0, 20);
+        due(x.map(0, 0, 1, 0, 0, 0, 0), OUTSIDE);
+        due(x.map(0, 0, 0, 0, 0, 0, 0), 1);
+    }
+
     private static void mapsAnew() {
         GrammarTools x = new GrammarTools();
         form(x, 0, 0, 20, 20);
@@ -1018,6 +1115,35 @@ public final class TurnEdgeTests extends Asking {
         due(x.map(2, 1, 1, 0, 0, 0, 0), 4);
         due(x.carry(0, 1), 3);
         spelled(x, 1, 8, 8, 9);
+    }
+
+    private static void carriedInAnotherOrder() {
+        of(58, "parts of unlike sizes in another order, LEAVES among them");
+        GrammarTools x = new GrammarTools();
+        form(x, 0, 0, 20);
+        form(x, 0, 0, 60, 1, 40, 60);
+        form(x, 1, 0, 20);
+        form(x, 1, 0, 60, 60, 40);
+        x.map(0, 0, 0, 0, 0, 0, 0);
+        due(x.map(1, 1, 2, 0, 1, 0, 0), 2);
+        tree(x, 0, 20, 1, 45, 21, 1, 46, 22);
+        due(x.size(0, 0), 5);
+        due(x.carry(0, 1), 5);
+        spelled(x, 1, 22, 21, 46, 20, 45);
+        int[] ups = {NONE, 0, 1, 1, 0};
+        int[] within = {5, 3, 1, 1, 1};
+        for (int n = 0; n < 5; n++) {
+            due(x.node(1, n, 1), ups[n]);
+            due(x.node(1, n, 2), within[n]);
+        }
+        due(x.slot(1, 0, 0), 1001);
+        due(x.slot(1, 0, 1), 1004);
+        due(x.slot(1, 0, 2), 45);
+        due(x.slot(1, 1, 1), 1003);
+        due(x.slot(1, 1, 2), 46);
+        due(x.leaf(1, 2, 1), 1);
+        due(x.leaf(1, 2, 2), 2);
+        due(x.leaf(1, 4, 1), 0);
     }
 
     private static void carriedForty() {
