@@ -206,6 +206,10 @@ public final class NameEdgeTests extends Asking {
         due(x.uses(0, 1), 3);
         due(x.bound(2, 0), NONE);
         due(x.uses(0, 1), 3);
+        tree(x, 3, 2, 20, 2, 20, 6, 20, 41);
+        due(x.bound(3, 0), 2);
+        tree(x, 3, 2, 20, 20);
+        due(x.bound(3, 0), NONE);
         due(x.rename(1, 0, 7), 1);
         spelled(x, 1, 6, 27, 27);
         text(x, 0, 20, 1);

@@ -279,6 +279,14 @@ public final class ReaderEdgeTests extends Asking {
         due(y.idle(0), 7);
         form(y, 0, 2, 1);
         due(y.idle(0), 0);
+        of(19, "SORT 0 within itself alone: IDLE, and what it leads to");
+        GrammarTools z = new GrammarTools();
+        form(z, 0, 0, 60, 1);
+        form(z, 0, 0, 60, 61);
+        form(z, 0, 1, 2);
+        due(z.idle(0), 7);
+        form(z, 0, 0, 3);
+        due(z.idle(0), 0);
         of(19, "nothing leads there: IDLE");
         form(y, 0, 3, 62, 1);
         form(y, 0, 5, 1);

@@ -985,6 +985,16 @@ public final class TreeEdgeTests extends Asking {
         due(x.join(0, 1, 2, 3), 1);
         due(x.join(2, 0, 1, 3), 1);
         spelled(x, 3, 2, 20, 20);
+        of(38, "where two of the three are of one FORM alone");
+        tree(x, 4, 2, 20, 40);
+        tree(x, 5, 2, 21, 41);
+        tree(x, 6, 22);
+        due(x.join(4, 5, 6, 3), 1);
+        spelled(x, 3, 2, 20, 40);
+        due(x.join(4, 6, 5, 3), 1);
+        spelled(x, 3, 2, 20, 40);
+        due(x.join(6, 4, 5, 3), 1);
+        spelled(x, 3, 22);
         of(38, "how many CLASHES: each by itself");
         tree(x, 4, 3, 20, 21, 22);
         tree(x, 5, 3, 25, 26, 27);

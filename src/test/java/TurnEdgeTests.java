@@ -209,12 +209,13 @@ public final class TurnEdgeTests extends Asking {
     }
 
     private static void rowsLikeInOnePair() {
-        of(49, "rows that are like in the first pair alone, in the second, in the third");
-        for (int which = 0; which < 3; which++) {
+        of(49, "rows that are like in one of three pairs alone, or in all but one, are not like");
+        for (int which = 0; which < 6; which++) {
             GrammarTools x = pairs();
             for (int pair = 0; pair < 3; pair++) {
                 int one = 20 + 2 * pair;
-                int other = pair == which ? one : one + 1;
+                boolean like = pair == which % 3 == which < 3;
+                int other = like ? one : one + 1;
                 show(x, row(2, one, other), row(2, other, one));
             }
             due(x.find(0), 2);
@@ -346,7 +347,8 @@ public final class TurnEdgeTests extends Asking {
     private static void fitting() {
         GrammarTools x = chains();
         form(x, 1, 0, 20);
-        treeOf(x, 1, 1, 20);
+        form(x, 1, 0, 2, 60);
+        treeOf(x, 1, 1, 2, 20);
         of(51, "at none");
         tree(x, 2, 20);
         due(x.fits(0, 2), 0);
@@ -943,6 +945,8 @@ public final class TurnEdgeTests extends Asking {
         due(x.map(0, 0, 0, 1, 4, 3, 2), OUTSIDE);
         due(x.map(0, 3, 0, 0, 0, 0, 0), OUTSIDE);
         due(x.map(0, 3, 2, 0, 0, 0, 0), OUTSIDE);
+        due(x.map(0, 4, 0, 0, 0, 0, 0), OUTSIDE);
+        due(x.map(0, 4, 1, 0, 0, 0, 0), OUTSIDE);
         due(x.count(6), 0);
     }
 
