@@ -221,14 +221,8 @@ public final class NameEdgeTests extends Asking {
 
     private static void fullestTree() {
         of(39, "40 NODES with five SLOTS each: 161 LEAVES");
-        GrammarTools x = new GrammarTools();
-        form(x, 0, 0, 60, 20, 20, 20, 20);
-        form(x, 0, 0, 20, 20, 20, 20, 20);
-        tree(x, 0, times(5, 20));
-        turnOf(x, 0, times(5, 20), times(9, 20));
-        for (int n = 1; n < 40; n++) {
-            x.apply(0, 0, 0);
-        }
+        GrammarTools x = fives();
+        fullest(x, 0);
         due(x.bound(0, 160), NONE);
         due(x.bound(0, 161), UNKNOWN);
         x.name(0, 0, 3, 1);
@@ -563,10 +557,7 @@ public final class NameEdgeTests extends Asking {
 
     private static void blamedInTheLastNode() {
         of(43, "100 times its NODE and the number of the RULE: the last one of the last of 40");
-        GrammarTools x = chains();
-        for (int n = 2; n < 40; n++) {
-            x.apply(0, 0, 0);
-        }
+        GrammarTools x = fortyInOneAnother();
         for (int i = 0; i < 6; i++) {
             x.rule(0, 0, NONE, i == 5 ? 1 : 0);
             x.rule(0, 1, 0, 5);
@@ -666,10 +657,7 @@ public final class NameEdgeTests extends Asking {
 
     private static void fuelOfFortyNodes() {
         of(45, "40 NODES");
-        GrammarTools x = chains();
-        for (int n = 2; n < 40; n++) {
-            x.apply(0, 0, 0);
-        }
+        GrammarTools x = fortyInOneAnother();
         x.world(0, 0, 77);
         due(x.run(0, 0, 39), SPENT);
         due(x.value(), 0);

@@ -212,18 +212,6 @@ public final class ReaderEdgeTests extends Asking {
         due(z.node(0, 1, 0), 3);
     }
 
-    /** Each number is 3 nodes in a row, each name 1; rows of them. */
-    private static GrammarTools deepNumbers() {
-        GrammarTools x = new GrammarTools();
-        form(x, 0, 0, 61, 60);
-        form(x, 0, 0, 61);
-        form(x, 0, 1, 62);
-        form(x, 0, 1, 20);
-        form(x, 0, 2, 63);
-        form(x, 0, 3, 40);
-        return x;
-    }
-
     private static void fortyNodes() {
         of(18, "40 NODES are not too many");
         GrammarTools x = deepNumbers();

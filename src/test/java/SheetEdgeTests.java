@@ -107,13 +107,7 @@ public final class SheetEdgeTests extends Asking {
     }
 
     private static void hintLarge() {
-        GrammarTools x = new GrammarTools();
-        form(x, 0, 0, 61, 60);
-        form(x, 0, 0, 61);
-        form(x, 0, 1, 62);
-        form(x, 0, 1, 20);
-        form(x, 0, 2, 63);
-        form(x, 0, 3, 40);
+        GrammarTools x = deepNumbers();
         // a number is 4 nodes, a name 2
         of(60, "40 NODES are not too many");
         text(x, 0, times(10, 40));

@@ -40,15 +40,6 @@ public final class TreeEdgeTests extends Asking {
         end("the edges of trees hold");
     }
 
-    /** 40 nodes in one another, as tree 0, by word 2 and name 0. */
-    private static GrammarTools fortyInOneAnother() {
-        GrammarTools x = chains();
-        for (int n = 2; n < 40; n++) {
-            x.apply(0, 0, 0);
-        }
-        return x;
-    }
-
     private static void sizesRefused() {
         GrammarTools x = sums();
         of(24, "UNKNOWN: a TREE that there is not");
@@ -791,25 +782,9 @@ public final class TreeEdgeTests extends Asking {
 
     private static void fullestTree() {
         of(36, "40 NODES with five SLOTS each: 201 PIECES");
-        GrammarTools x = new GrammarTools();
-        for (int v = 0; v < 2; v++) {
-            form(x, v, 0, 60, 20, 20, 20, 20);
-            form(x, v, 0, 20, 20, 20, 20, 20);
-        }
-        tree(x, 0, times(5, 20));
-        turnOf(x, 0, times(5, 20), times(9, 20));
-        for (int n = 1; n < 40; n++) {
-            x.apply(0, 0, 0);
-        }
-        treeOf(x, 1, 1, times(5, 20));
-        x.hide();
-        treeOf(x, 1, 10, times(5, 20));
-        treeOf(x, 1, 11, times(9, 20));
-        x.show(10, 11);
-        x.find(1);
-        for (int n = 1; n < 40; n++) {
-            x.apply(1, 1, 1);
-        }
+        GrammarTools x = fives();
+        fullest(x, 0);
+        fullest(x, 1);
         due(x.size(0, 0), 40);
         due(x.size(1, 1), 161);
         due(x.distance(0, 0), 0);

@@ -345,7 +345,7 @@ public final class TurnEdgeTests extends Asking {
     }
 
     private static void fitting() {
-        GrammarTools x = chains();
+        GrammarTools x = fortyInOneAnother();
         form(x, 1, 0, 20);
         form(x, 1, 0, 2, 60);
         treeOf(x, 1, 1, 2, 20);
@@ -353,9 +353,6 @@ public final class TurnEdgeTests extends Asking {
         tree(x, 2, 20);
         due(x.fits(0, 2), 0);
         of(51, "at NODES within others, too: 39 of 40");
-        for (int n = 2; n < 40; n++) {
-            x.apply(0, 0, 0);
-        }
         due(x.fits(0, 0), 39);
         of(51, "0 of another TELLING");
         due(x.fits(0, 1), 0);
@@ -509,16 +506,8 @@ public final class TurnEdgeTests extends Asking {
 
     private static void fullestTree() {
         of(52, "40 NODES with five SLOTS each: 161 LEAVES");
-        GrammarTools x = new GrammarTools();
-        form(x, 0, 0, 60, 20, 20, 20, 20);
-        form(x, 0, 0, 20, 20, 20, 20, 20);
-        form(x, 1, 0, 60, 20, 20, 20, 20);
-        form(x, 1, 0, 20, 20, 20, 20, 20);
-        tree(x, 0, times(5, 20));
-        turnOf(x, 0, times(5, 20), times(9, 20));
-        for (int n = 1; n < 40; n++) {
-            due(x.apply(0, 0, 0), 1);
-        }
+        GrammarTools x = fives();
+        fullest(x, 0);
         due(x.size(0, 1), 161);
         due(x.apply(0, 0, 1), LARGE);
         due(x.fits(0, 0), 1);
@@ -823,12 +812,9 @@ public final class TurnEdgeTests extends Asking {
         due(keptTo(x, 2, 21), NONE);
         due(keptTo(x, 40, 21), NONE);
         of(54, "from a TREE of 40 NODES backwards");
-        GrammarTools y = chains();
+        GrammarTools y = fortyInOneAnother();
         y.law(0, true);
         tree(y, 1, 2, 20);
-        for (int n = 2; n < 40; n++) {
-            y.apply(0, 0, 0);
-        }
         y.hide();
         y.show(0, 1);
         due(y.find(5), 0);
@@ -864,10 +850,7 @@ public final class TurnEdgeTests extends Asking {
             due(x.tried(turn), UNKNOWN);
         }
         of(55, "1000 FUEL each: 40 NODES take less");
-        GrammarTools y = chains();
-        for (int n = 2; n < 40; n++) {
-            y.apply(0, 0, 0);
-        }
+        GrammarTools y = fortyInOneAnother();
         y.hide();
         y.show(0, 0);
         y.find(1);
@@ -1152,14 +1135,11 @@ public final class TurnEdgeTests extends Asking {
 
     private static void carriedForty() {
         of(58, "40 NODES");
-        GrammarTools x = chains();
+        GrammarTools x = fortyInOneAnother();
         form(x, 1, 0, 20);
         form(x, 1, 0, 1, 60, 2);
         x.map(0, 0, 0, 0, 0, 0, 0);
         x.map(1, 1, 0, 0, 0, 0, 0);
-        for (int n = 2; n < 40; n++) {
-            x.apply(0, 0, 0);
-        }
         due(x.left(0), NONE);
         due(x.carry(0, 1), 40);
         due(x.size(1, 2), 79);
@@ -1190,12 +1170,9 @@ public final class TurnEdgeTests extends Asking {
             due(x.left(tree), UNKNOWN);
         }
         of(59, "the last of 40 NODES");
-        GrammarTools y = chains();
+        GrammarTools y = fortyInOneAnother();
         form(y, 1, 0, 5, 60);
         y.map(1, 0, 0, 0, 0, 0, 0);
-        for (int n = 2; n < 40; n++) {
-            y.apply(0, 0, 0);
-        }
         due(y.left(0), 39);
     }
 }

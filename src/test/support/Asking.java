@@ -105,6 +105,51 @@ abstract class Asking {
         return x;
     }
 
+    /** As chains, with tree 0 of 40 nodes in one another. */
+    static GrammarTools fortyInOneAnother() {
+        GrammarTools x = chains();
+        for (int n = 2; n < 40; n++) {
+            x.apply(0, 0, 0);
+        }
+        return x;
+    }
+
+    /** Sorts 0 and up, so that in a row of them a number is 4 nodes and a name 2. */
+    static GrammarTools deepNumbers() {
+        GrammarTools x = new GrammarTools();
+        form(x, 0, 0, 61, 60);
+        form(x, 0, 0, 61);
+        form(x, 0, 1, 62);
+        form(x, 0, 1, 20);
+        form(x, 0, 2, 63);
+        form(x, 0, 3, 40);
+        return x;
+    }
+
+    /** In both tellings form 0 of one more and four names, form 1 of five names. */
+    static GrammarTools fives() {
+        GrammarTools x = new GrammarTools();
+        for (int v = 0; v < 2; v++) {
+            form(x, v, 0, 60, 20, 20, 20, 20);
+            form(x, v, 0, 20, 20, 20, 20, 20);
+        }
+        return x;
+    }
+
+    /** Tree v becomes 40 nodes with five slots each, by turn v. */
+    static void fullest(GrammarTools x, int v) {
+        treeOf(x, v, 10, times(5, 20));
+        treeOf(x, v, 11, times(9, 20));
+        x.hide();
+        x.show(10, 11);
+        x.find(v);
+        x.hide();
+        x.keep(v, 10);
+        for (int n = 1; n < 40; n++) {
+            x.apply(v, v, v);
+        }
+    }
+
     // ---- texts and trees
 
     static void text(GrammarTools x, int t, int... codes) {
