@@ -800,7 +800,7 @@ public final class GrammarTools {
             return what == 1 ? NONE : readings == 0 ? 1 : 2;
         }
         reader.leastPrice();
-        if (!growBuilt(v)) {
+        if (!reader.growTree(built, v)) {
             return LARGE;
         }
         bindTree(built);
@@ -1057,18 +1057,8 @@ public final class GrammarTools {
         return many;
     }
 
-    /** Builds the tree of the row that the reader has priced; false if it is too large. */
-    private boolean growBuilt(int v) {
-        built.start(v);
-        if (!reader.grow(built, 0, 0, reader.size, 0)) {
-            return false;
-        }
-        built.index(tellings[v].slots);
-        return true;
-    }
-
     private int growInto(int v, int tree) {
-        if (!growBuilt(v)) {
+        if (!reader.growTree(built, v)) {
             return LARGE;
         }
         trees[tree].become(built);
@@ -1395,7 +1385,7 @@ public final class GrammarTools {
         /** Forms of one sort alone lead upwards, so that no chain on one part is longer than this. */
         private static final int ROUNDS = 20;
 
-        int size;
+        private int size;
         private Telling told;
         private final int[] text = new int[CELLS];
         private final int[] ways = new int[SORTS * SPANS];
@@ -1550,8 +1540,17 @@ public final class GrammarTools {
             return found ? to - from - 1 : Math.max(to - from, 1);
         }
 
-        /** Adds the tree that has the least price, once it is told; false if it is too large. */
-        boolean grow(Tree out, int sort, int from, int to, int depth) {
+        /** Makes the tree of telling v that has the least price, once it is told; false if it is too large. */
+        boolean growTree(Tree out, int v) {
+            out.start(v);
+            if (!grow(out, 0, 0, size, 0)) {
+                return false;
+            }
+            out.index(told.slots);
+            return true;
+        }
+
+        private boolean grow(Tree out, int sort, int from, int to, int depth) {
             int f = firstForm(sort, from, to);
             if (depth > DEPTH || f == NONE || !out.add(NODE + f)) {
                 return false;
