@@ -1,13 +1,20 @@
+import java.io.IOException;
 import java.lang.reflect.Array;
 import java.lang.reflect.Constructor;
 import java.lang.reflect.Field;
 import java.lang.reflect.Member;
 import java.lang.reflect.Method;
 import java.lang.reflect.Modifier;
+import java.nio.file.Files;
+import java.nio.file.Path;
+import java.util.ArrayList;
 import java.util.Arrays;
 import java.util.IdentityHashMap;
+import java.util.List;
 import java.util.Set;
 import java.util.TreeSet;
+import java.util.regex.Matcher;
+import java.util.regex.Pattern;
 
 /** The public face: just what the document tells, and nothing else that can be seen from outside. */
 public final class FaceTests extends Asking {
@@ -20,7 +27,7 @@ public final class FaceTests extends Asking {
         + "carry ii, left i, hint iii, forge iii, set iii, get ii, copy iiiii, take ii";
     private static final String CONSTANTS = "FULL LARGE NONE NOT OUTSIDE SPENT UNKNOWN";
 
-    public static void main(String[] args) throws IllegalAccessException {
+    public static void main(String[] args) throws IllegalAccessException, IOException {
         Class<?> face = GrammarTools.class;
         of(0, "public final class GrammarTools");
         due(Modifier.isPublic(face.getModifiers()) && Modifier.isFinal(face.getModifiers()) ? 1 : 0, 1);
@@ -31,6 +38,7 @@ public final class FaceTests extends Asking {
         methods(face);
         classesInside(face);
         room();
+        lines();
         end("the face is the document's");
     }
 
@@ -141,5 +149,62 @@ public final class FaceTests extends Asking {
                 }
             }
         }
+    }
+
+    /** The lines of the face, and those ahead of its calls, in the document's order. */
+    private static void lines() throws IOException {
+        String doc = Files.readString(Path.of("../shared/DOC.md"));
+        String[] source = Files.readString(Path.of("src/main/java/GrammarTools.java")).split("\n");
+        List<String> told = new ArrayList<>();
+        List<String> written = new ArrayList<>();
+        for (String line : doc.substring(doc.indexOf("```java") + 8, doc.indexOf("\n}\n```")).split("\n")) {
+            told.add(line.strip().replaceAll(" \\{$|;$", ""));
+        }
+        for (String line : source) {
+            if (line.startsWith("public ") || line.startsWith("    public ")) {
+                written.add(line.strip().replaceAll(" \\{$|;$", ""));
+            }
+        }
+        of(0, "the public face, line by line");
+        same(written, told);
+        of(0, "ahead of the calls the interface says");
+        same(sectionsOf(source), sectionsTold(doc));
+    }
+
+    private static void same(List<String> got, List<String> want) {
+        due(got.equals(want) ? 1 : 0, 1);
+        for (int i = 0; i < Math.max(got.size(), want.size()); i++) {
+            String is = i < got.size() ? got.get(i) : "nothing";
+            String told = i < want.size() ? want.get(i) : "nothing";
+            if (!is.equals(told)) {
+                System.out.println("    stands: " + is + "\n    told: " + told);
+            }
+        }
+    }
+
+    /** Of each call the line ahead of it, and its name, as the document tells them. */
+    private static List<String> sectionsTold(String doc) {
+        List<String> all = new ArrayList<>();
+        Matcher sentence = Pattern.compile("Ahead of the calls (.*) the interface says: ---- (.*)\\.").matcher(doc);
+        while (sentence.find()) {
+            for (String name : sentence.group(1).split(", ")) {
+                all.add(sentence.group(2) + ": " + name.replace("`", ""));
+            }
+        }
+        return all;
+    }
+
+    private static List<String> sectionsOf(String[] source) {
+        List<String> all = new ArrayList<>();
+        String section = "";
+        Pattern call = Pattern.compile("    public int (\\w+)\\(.*");
+        for (String line : source) {
+            Matcher m = call.matcher(line);
+            if (m.matches()) {
+                all.add(section + ": " + m.group(1));
+            }
+            section = line.startsWith("    // ---- ") ? line.substring(12) : section;
+        }
+        return all;
     }
 }
